@@ -9,11 +9,20 @@ final class Check {
     static final Class<?> NO_ELEMENT = NoSuchElementException.class;
 
     private final String test;
+    private String sentence = "";
     private int compared;
+    private int comparedBeforeSentence;
     private int wrong;
 
     Check(String test) {
         this.test = test;
+    }
+
+    /** What is compared from here on tests this promise by these words of the document. */
+    void promise(int number, String words) {
+        needComparisons();
+        sentence = "promise " + number + ", '" + words + "': ";
+        comparedBeforeSentence = compared;
     }
 
     void is(String what, int due, int got) {
@@ -33,7 +42,7 @@ final class Check {
         compared++;
         if (!due.equals(got)) {
             wrong++;
-            System.out.println(test + ": " + what + " answered " + got + ", due is " + due);
+            System.out.println(test + ": " + sentence + what + " answered " + got + ", due is " + due);
         }
     }
 
@@ -45,10 +54,23 @@ final class Check {
         }
     }
 
+    static boolean isAnswer(String outcome) {
+        return !outcome.startsWith("java.");
+    }
+
     void close() {
+        needComparisons();
         System.out.println(test + ": " + compared + " answers, " + wrong + " wrong");
         if (wrong > 0 || compared == 0) {
             System.exit(1);
+        }
+    }
+
+    /** A sentence without a comparison would look tested and be not. */
+    private void needComparisons() {
+        if (!sentence.isEmpty() && compared == comparedBeforeSentence) {
+            wrong++;
+            System.out.println(test + ": " + sentence + "nothing was compared");
         }
     }
 }

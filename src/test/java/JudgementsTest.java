@@ -19,10 +19,10 @@ public final class JudgementsTest {
 
     /** Promises 23 to 26 in one row: hours, first hour, reasons. */
     private static void judge(FrostCalendar x, int change, int hours, int first, int reasons) {
-        check.is("badHours(" + change + ")", hours, x.badHours(change));
-        check.is("badHoursOneByOne(" + change + ")", hours, x.badHoursOneByOne(change));
-        check.is("firstBad(" + change + ")", first, x.firstBad(change));
-        check.is("reasons(" + change + ")", reasons, x.reasons(change));
+        check.is("promise 23, badHours(" + change + ")", hours, x.badHours(change));
+        check.is("promise 24, badHoursOneByOne(" + change + ")", hours, x.badHoursOneByOne(change));
+        check.is("promise 25, firstBad(" + change + ")", first, x.firstBad(change));
+        check.is("promise 26, reasons(" + change + ")", reasons, x.reasons(change));
     }
 
     private static void judgeWithoutFreezes() {
@@ -37,10 +37,11 @@ public final class JudgementsTest {
         FrostCalendar x = new FrostCalendar();
         x.plan(0, 0, 1, 1);
         for (int change : new int[] {-1, 1, 29, 30, Integer.MIN_VALUE, Integer.MAX_VALUE}) {
-            check.refuses("badHours(" + change + ")", Check.NO_INDEX, () -> x.badHours(change));
-            check.refuses("badHoursOneByOne(" + change + ")", Check.NO_INDEX, () -> x.badHoursOneByOne(change));
-            check.refuses("firstBad(" + change + ")", Check.NO_INDEX, () -> x.firstBad(change));
-            check.refuses("reasons(" + change + ")", Check.NO_INDEX, () -> x.reasons(change));
+            check.refuses("promise 23, badHours(" + change + ")", Check.NO_INDEX, () -> x.badHours(change));
+            check.refuses("promise 24, badHoursOneByOne(" + change + ")", Check.NO_INDEX,
+                    () -> x.badHoursOneByOne(change));
+            check.refuses("promise 25, firstBad(" + change + ")", Check.NO_INDEX, () -> x.firstBad(change));
+            check.refuses("promise 26, reasons(" + change + ")", Check.NO_INDEX, () -> x.reasons(change));
         }
     }
 
